@@ -34,6 +34,7 @@ public final class PromisesTest {
         faultForms();
         faultCalls();
         play();
+        fewerParticles();
         checks.end();
     }
 
@@ -463,6 +464,10 @@ public final class PromisesTest {
         }
         x.move(99, 99);
         x.move(-99, 0);
+        for (int change = 0; change < 6; change++) {
+            x.set(0, 1);
+        }
+        due("generationOf(3, 3)", x.generationOf(3, 3), 2);
         due("generationOf(4, 1)", x.generationOf(4, 1), 199);
         due("generationOf(4, 2)", x.generationOf(4, 2), 99);
         due("generationOf(5, 1)", x.generationOf(5, 1), 1);
@@ -603,6 +608,9 @@ public final class PromisesTest {
         dueAll("scheme 0", choices(x, 0), 0, 0, 1, 2);
         fill(x);
         dueAll("scheme 2", choices(x, 2), 0, 0, 1, 2);
+        // 50 hundredths of 199 are 99, which 3 times 33 is not above.
+        ParticleLines y = withWeights(10, 33, 83, 83);
+        dueAll("scheme 0", choices(y, 0), 1, 1, 2);
         int[][] wrong = {{-1, 0}, {3, 0}, {MIN, 0}, {MAX, 0}, {0, -1}, {0, 4}, {0, MIN}, {0, MAX}};
         for (int[] w : wrong) {
             due("would(" + w[0] + ", " + w[1] + ")", x.would(w[0], w[1]), INVALID);
@@ -625,6 +633,8 @@ public final class PromisesTest {
         due("count(20)", x.count(20), 1);
         due("count(21)", x.count(21), 2);
         due("count(22)", x.count(22), 98);
+        x.weigh(0, 0);
+        due("count(5)", x.count(5), 4);
         x.resample();
         x.move(0, 9);
         x.resample();
@@ -819,5 +829,26 @@ public final class PromisesTest {
         write(x, "m-5,0;");
         due("play()", x.play(), 1);
         dueAll("places", places(x), 0, 5, 15, 25);
+    }
+
+    private static void fewerParticles() {
+        checks.part("promise 2, fewer particles than before");
+        ParticleLines x = withWeights(10, 9, 4, 0, 4);
+        // 4 * 9 and 4 * 4 by 17 are 2 and 2, 0 and 16.
+        dueAll("scheme 2", choices(x, 2), 0, 0, 1, 3);
+        x.begin(3, 0, 10);
+        x.weigh(0, 2);
+        due("count(2)", x.count(2), 4);
+        // 6, 3 and 3 by 4 are 1 and 2, 0 and 3, 0 and 3.
+        dueAll("scheme 2", choices(x, 2), 0, 1, 2);
+        x.weigh(2, 9);
+        x.begin(2, 0, 10);
+        dueAll("what 6", ofParticles(x, 6), 0, 1);
+        due("count(2)", x.count(2), 2);
+        due("share(0, 0, 99, 0)", x.share(0, 0, 99, 0), 1);
+        due("share(0, 0, 99, 1)", x.share(0, 0, 99, 1), 1);
+        due("mean(0, 0)", x.mean(0, 0), 5);
+        due("weigh(0, 6)", x.weigh(0, 6), 6);
+        due("weigh(1, 6)", x.weigh(1, 6), 1);
     }
 }
