@@ -1,15 +1,7 @@
 /** Each promise by itself, with answers worked out by hand from the document. */
-public final class PromisesTest {
-    private static final int INVALID = -1000001;
-    private static final int NOT_POSSIBLE = -1000002;
-    private static final int LIMIT = -1000003;
-    private static final int NOT_FOUND = -1000004;
-    private static final int MIN = Integer.MIN_VALUE;
-    private static final int MAX = Integer.MAX_VALUE;
-
-    private static final Checks checks = new Checks("PromisesTest");
-
+public final class PromisesTest extends Calls {
     public static void main(String[] args) {
+        checks = new Checks("PromisesTest");
         constants();
         newObject();
         begin();
@@ -36,67 +28,6 @@ public final class PromisesTest {
         play();
         fewerParticles();
         checks.end();
-    }
-
-    private static void due(String call, long got, long want) {
-        checks.due(call, got, want);
-    }
-
-    private static void dueAll(String what, int[] got, int... want) {
-        due(what + ": how many", got.length, want.length);
-        for (int k = 0; k < got.length && k < want.length; k++) {
-            due(what + "[" + k + "]", got[k], want[k]);
-        }
-    }
-
-    private static int[] ofParticles(ParticleLines x, int what) {
-        int[] found = new int[x.count(0)];
-        for (int k = 0; k < found.length; k++) {
-            found[k] = x.particleOf(k, what);
-        }
-        return found;
-    }
-
-    private static int[] places(ParticleLines x) {
-        return ofParticles(x, 0);
-    }
-
-    private static int[] weights(ParticleLines x) {
-        return ofParticles(x, 1);
-    }
-
-    private static int[] parents(ParticleLines x) {
-        return ofParticles(x, 2);
-    }
-
-    private static int[] choices(ParticleLines x, int scheme) {
-        int[] found = new int[x.count(0)];
-        for (int k = 0; k < found.length; k++) {
-            found[k] = x.would(scheme, k);
-        }
-        return found;
-    }
-
-    private static ParticleLines withWeights(int step, int... weights) {
-        ParticleLines x = new ParticleLines();
-        x.begin(weights.length, 0, step);
-        for (int k = 0; k < weights.length; k++) {
-            x.weigh(k, weights[k]);
-        }
-        return x;
-    }
-
-    private static void write(ParticleLines x, String text) {
-        x.clearText();
-        for (int k = 0; k < text.length(); k++) {
-            due("type " + text.charAt(k), x.type(text.charAt(k)), k + 1);
-        }
-    }
-
-    private static void fill(ParticleLines x) {
-        while (x.count(1) < 20) {
-            x.move(0, 0);
-        }
     }
 
     private static void constants() {
